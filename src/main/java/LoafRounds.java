@@ -26,7 +26,6 @@ public final class LoafRounds {
     private static final int GREATEST_SCRIPT = 3;
     private static final int GREATEST_TURNS = 60;
     private static final int GREATEST_ABOUT = 12;
-    private static final int GREATEST_CUSTOMER_OF = 10;
     private static final int GROUP = 1000000;
 
     private static final int OVEN = 0;
@@ -38,13 +37,17 @@ public final class LoafRounds {
     private static final int[] LEAST_SETTING = {0, 0, 0, 0, 1};
     private static final int[] GREATEST_SETTING = {99, 9, 9, 30, 20};
 
-    // What customerOf() calls these numbers of a customer.
+    // What customerOf() calls the numbers of a customer.
+    private static final int OF_STREET = 0;
+    private static final int OF_ALL_WEEKDAYS = 1;
     private static final int OF_CREDIT = 2;
     private static final int OF_GOT = 3;
     private static final int OF_MADE_GOOD = 4;
     private static final int OF_PAID_BACK = 5;
     private static final int OF_MISSED = 6;
     private static final int OF_SHORT = 7;
+    private static final int OF_DUE_TODAY = 9;
+    private static final int OF_NEXT_DUE_DAY = 10;
 
     private static final int ADD_CUSTOMER = 0;
     private static final int CHANGE_LOAVES = 1;
@@ -95,7 +98,7 @@ public final class LoafRounds {
             isSaved[slot] = false;
         }
         int leftOut = 0;
-        for (int at = 1; at < text.length; at += text.commandLength(at)) {
+        for (int at = 1; at < text.length; at += 1 + text.formLength(at)) {
             if (text.doCommand(at, book) == REFUSED) {
                 leftOut++;
             }
@@ -112,11 +115,11 @@ public final class LoafRounds {
 
     public int customerOf(int c, int what) throws IndexOutOfBoundsException, IllegalArgumentException {
         demandPlace(book.hasCustomer(c));
-        demandArgument(isWithin(what, 0, GREATEST_CUSTOMER_OF));
+        demandArgument(isWithin(what, 0, OF_NEXT_DUE_DAY));
         switch (what) {
-            case 9:
+            case OF_DUE_TODAY:
                 return book.customers[c].dueOn(book.today);
-            case 10:
+            case OF_NEXT_DUE_DAY:
                 return book.customers[c].nextDueDay(book.today);
             default:
                 return book.customers[c].numberOf(what);
@@ -484,9 +487,9 @@ public final class LoafRounds {
 
         private int numberOf(int what) {
             switch (what) {
-                case 0:
+                case OF_STREET:
                     return street;
-                case 1:
+                case OF_ALL_WEEKDAYS:
                     return loavesAWeek();
                 case OF_CREDIT:
                     return credit;
@@ -1031,15 +1034,15 @@ public final class LoafRounds {
             }
         }
 
-        private int commandLength(int at) {
-            return 1 + formOf(signAt(at)).length();
+        private int formLength(int at) {
+            return formOf(signAt(at)).length();
         }
 
         private int firstError() {
             if (signAt(0) != 'B') {
                 return 0;
             }
-            for (int at = 1; at < length; at += commandLength(at)) {
+            for (int at = 1; at < length; at += 1 + formLength(at)) {
                 String form = formOf(signAt(at));
                 if (form.isEmpty()) {
                     return at;
