@@ -274,8 +274,7 @@ public final class LoafRounds {
         demandArgument(script >= 0 && script < limit);
         trial.copyFrom(book);
         for (int i = 0; i < n; i++) {
-            limit /= GROUP;
-            if (!succeeds((int) (script / limit % GROUP))) {
+            if (!succeeds(groupOf(script, n - 1 - i))) {
                 return i;
             }
         }
@@ -330,6 +329,14 @@ public final class LoafRounds {
             rest /= STREETS;
         }
         return told == (1 << STREETS) - 1;
+    }
+
+    private static int groupOf(long script, int groupsBehind) {
+        long rest = script;
+        for (int i = 0; i < groupsBehind; i++) {
+            rest /= GROUP;
+        }
+        return (int) (rest % GROUP);
     }
 
     private boolean succeeds(int group) {

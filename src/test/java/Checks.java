@@ -2,9 +2,28 @@ import java.util.StringJoiner;
 
 /** What all tests share: telling answers that are not due, and looking at an object from outside. */
 final class Checks {
+    private static final long LONGEST_TEST = 300_000;
+
     private static int wrong = 0;
 
+    static {
+        Thread watch = new Thread(Checks::endWhatDoesNotEnd);
+        watch.setDaemon(true);
+        watch.start();
+    }
+
     private Checks() {
+    }
+
+    /** A call that fails to end must fail its test. */
+    private static void endWhatDoesNotEnd() {
+        try {
+            Thread.sleep(LONGEST_TEST);
+        } catch (InterruptedException e) {
+            return;
+        }
+        System.out.println("the test does not end");
+        Runtime.getRuntime().halt(1);
     }
 
     static void same(String call, long got, long want) {
