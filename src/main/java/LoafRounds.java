@@ -439,8 +439,9 @@ public final class LoafRounds {
         return isWithin(slot, 0, SLOTS - 1);
     }
 
+    // No day is below 0.
     private static int weekdayOf(int day) {
-        return Math.floorMod(day, WEEKDAYS);
+        return day % WEEKDAYS;
     }
 
     /** Why an action can not be done. */
@@ -673,7 +674,9 @@ public final class LoafRounds {
             for (int c = 0; c < customerCount; c++) {
                 customers[c].copyFrom(other.customers[c]);
             }
-            System.arraycopy(other.shut, 0, shut, 0, STREETS * WEEKDAYS);
+            for (int i = 0; i < STREETS * WEEKDAYS; i++) {
+                shut[i] = other.shut[i];
+            }
             System.arraycopy(other.order, 0, order, 0, STREETS);
             System.arraycopy(other.settings, 0, settings, 0, SETTINGS);
         }
